@@ -516,7 +516,7 @@ public final class MirroredTalks {
                     alike[one * STATES + other] = looksAlike(plan, one, other);
                 }
             }
-            // Each round that parts states makes more groups of alike ones, and there are at most as many as states.
+            // A round that changes anything makes more groups of states, and there are no more of these than states.
             for (int round = 1; round < STATES; round++) {
                 part(plan);
             }
@@ -664,7 +664,8 @@ public final class MirroredTalks {
         int reasonOf(int position) {
             int state = stateOfOne(position);
             int otherState = stateOfOther(position);
-            return reasonFor(one.kindOf(state), one.wordsOf(state), other.kindOf(otherState), other.wordsOf(otherState));
+            return reasonFor(one.kindOf(state), one.wordsOf(state),
+                    other.kindOf(otherState), other.wordsOf(otherState));
         }
 
         private int firstLackedWord(int position) {
@@ -824,10 +825,11 @@ public final class MirroredTalks {
 
     /** Counts the rows of words by which talks come to an end. */
     private static final class RowCount {
-        /** By position, here and below: how many arrows lead there from pairs that are not counted yet. */
+        /** By position: how many arrows lead there from pairs whose rows are not all counted yet. */
         private final int[] openWays = new int[PAIRS];
+        /** By position: how many rows of those that are counted lead there. */
         private final long[] rows = new long[PAIRS];
-        /** The positions of which all the rows are counted, those that were so first ahead. */
+        /** The positions whose rows are all counted. */
         private final int[] ready = new int[PAIRS];
         private int readySize;
 

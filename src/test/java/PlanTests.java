@@ -13,6 +13,7 @@ public final class PlanTests {
         stateOf();
         statesComeTo();
         statesAlike();
+        statesAlikeByTheLowest();
         unlike();
         count();
         undo();
@@ -184,6 +185,8 @@ public final class PlanTests {
         // The longest way, against the order of the states, and one that goes on behind an end.
         MirroredTalks x = Checks.withPlans("0!a7;7?a6;6!a5;5!a4;4!a3;3!a2;2!a1;", "0!a1b2;1?a1;2.;3!a0;");
         due("all", x.stateOf(0, 0, 3), 255);
+        MirroredTalks down = Checks.withPlans("7!a6;6?a5;5!a4;4?a3;3!a2;2?a1;1!a0;");
+        due("all, downwards", down.stateOf(0, 7, 3), 255);
         due("from the last one", x.stateOf(0, 1, 3), 2);
         due("from the middle", x.stateOf(0, 4, 3), 2 + 4 + 8 + 16);
         x.arrow(1, 2, 0, 3);
@@ -215,11 +218,23 @@ public final class PlanTests {
         x.arrow(0, 4, 1, 0);
         due("more words", x.stateOf(0, 4, 2), 4);
         // A chain in which the difference comes from the far end: no two are alike.
-        MirroredTalks chain = Checks.withPlans("0!a1;1!a2;2!a3;3!a4;4!a5;5!a6;6!a7;", "7!a6;6!a5;5!a4;4!a3;3!a2;2!a1;1!a0;");
+        MirroredTalks chain = Checks.withPlans(
+                "0!a1;1!a2;2!a3;3!a4;4!a5;5!a6;6!a7;", "7!a6;6!a5;5!a4;4!a3;3!a2;2!a1;1!a0;");
         for (int state = 0; state < 8; state++) {
             due("chain", chain.stateOf(0, state, 2), state);
             due("chain back", chain.stateOf(1, state, 2), state);
         }
+    }
+
+    private static void statesAlikeByTheLowest() {
+        // 1 and 2 lead to 3 and 0, which look alike, but lead to 4 and 5, which do not.
+        MirroredTalks x = Checks.withPlans("0!a4;3!a5;1!b3;2!b0;4!c4;5?;");
+        due("not by 0 and 3", x.stateOf(0, 2, 2), 2);
+        due("3 itself", x.stateOf(0, 3, 2), 3);
+        x.kind(0, 5, 0);
+        x.kind(0, 4, 0);
+        due("by 0 and 3", x.stateOf(0, 2, 2), 1);
+        due("3 like 0", x.stateOf(0, 3, 2), 0);
     }
 
     private static void unlike() {

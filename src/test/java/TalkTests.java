@@ -156,7 +156,8 @@ public final class TalkTests {
         due("no more", x.pairOf(0, 1, 56, 0), Checks.NOT_FOUND);
         // With a jump to a loop's middle by b all 64 pairs are come to.
         MirroredTalks y = Checks.withPlans(
-                "0!a1b0;1!a2;2!a3;3!a4;4!a5;5!a6;6!a7;7!a0;", "0?a1b1;1?a2b2;2?a3b3;3?a4b4;4?a5b5;5?a6b6;6?a7b7;7?a0b0;");
+                "0!a1b0;1!a2;2!a3;3!a4;4!a5;5!a6;6!a7;7!a0;",
+                "0?a1b1;1?a2b2;2?a3b3;3?a4b4;4?a5b5;5?a6b6;6?a7b7;7?a0b0;");
         due("all pairs", y.talk(0, 1, 0), 64);
         due("the last of them", y.pairOf(0, 1, 63, 2) > 0 ? 1 : 0, 1);
         due("no more than all", y.pairOf(0, 1, 64, 0), Checks.NOT_FOUND);
