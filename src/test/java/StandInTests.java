@@ -45,10 +45,10 @@ public final class StandInTests {
     }
 
     private static void kinds() {
-        MirroredTalks x = new MirroredTalks();
         int[][] want = {{0, 1, 1}, {1, 2, 1}, {1, 1, 0}};
         for (int kind = 0; kind < 3; kind++) {
             for (int otherKind = 0; otherKind < 3; otherKind++) {
+                MirroredTalks x = new MirroredTalks();
                 x.kind(0, 0, kind);
                 x.kind(1, 0, otherKind);
                 if (want[kind][otherKind] == 0) {
