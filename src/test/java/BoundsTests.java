@@ -107,7 +107,7 @@ public final class BoundsTests {
         return found;
     }
 
-    /** An object that is new; with a full text that has a fault; with a text that has none; with plans that talk long. */
+    /** Leaves the object new, or with a full text that has a fault, a text that has none, or plans that talk long. */
     private static void prepare(int object, MirroredTalks x, Model model) {
         if (object == 1) {
             write("0!a1;".repeat(16), x, model);

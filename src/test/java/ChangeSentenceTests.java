@@ -207,6 +207,31 @@ public final class ChangeSentenceTests {
         }
         due("the last one", x.undo(), 0);
         due("none", x.stateOf(1, 2, 13), Checks.NOT_FOUND);
+        // Whatever the change is, all three plans are as they were, back to the beginning.
+        for (int plan = 0; plan < 3; plan++) {
+            int changed = plan;
+            dueRestored(y -> y.kind(changed, 0, 1), y -> y.arrow(changed, 0, 0, 7), y -> y.erase(changed, 0, 0),
+                    y -> y.mirror(changed));
+            dueRestored(y -> y.arrow(changed, 7, 5, 7), y -> y.kind(changed, 7, 2),
+                    y -> y.copy(changed, (changed + 1) % 3), y -> y.read(changed));
+        }
+    }
+
+    private static void dueRestored(Call... changes) {
+        MirroredTalks x = new MirroredTalks();
+        String[] before = new String[changes.length];
+        for (int change = 0; change < changes.length; change++) {
+            MirroredTalks y = new MirroredTalks();
+            for (int first = 0; first < change; first++) {
+                changes[first].on(y);
+            }
+            before[change] = Checks.plans(y);
+            changes[change].on(x);
+        }
+        for (int change = changes.length - 1; change >= 0; change--) {
+            due("undo", x.undo(), change);
+            Checks.due("ahead of change " + change, Checks.plans(x), before[change]);
+        }
     }
 
     private static void undoIsNoChange() {
@@ -295,7 +320,8 @@ public final class ChangeSentenceTests {
     }
 
     private static void invalidRatherThanLimit() {
-        Checks.sentence("INVALID_ARGUMENT is returned rather than NOT_POSSIBLE, NOT_POSSIBLE rather than LIMIT_REACHED");
+        Checks.sentence("INVALID_ARGUMENT is returned rather than NOT_POSSIBLE, NOT_POSSIBLE rather than"
+                + " LIMIT_REACHED");
         MirroredTalks x = Checks.withText(";".repeat(80));
         for (int wrong : new int[] {31, 127, 0, -1, Integer.MIN_VALUE, Integer.MAX_VALUE}) {
             due("type " + wrong, x.type(wrong), Checks.INVALID);

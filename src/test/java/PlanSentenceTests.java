@@ -485,7 +485,8 @@ public final class PlanSentenceTests {
     }
 
     private static void statesCountedOnce() {
-        Checks.sentence("Counts the states of a plan that one can come to from the state 0, those that are alike once.");
+        Checks.sentence("Counts the states of a plan that one can come to from the state 0, those that are alike"
+                + " once.");
         // A chain of one state, of two, and so on, the last one of which ends.
         for (int states = 1; states <= 8; states++) {
             MirroredTalks x = new MirroredTalks();

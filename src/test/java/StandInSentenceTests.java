@@ -417,7 +417,8 @@ public final class StandInSentenceTests {
     }
 
     private static void countedToo() {
-        Checks.sentence("10 plus 3 times a plan plus another one: 1 if the one can stand in for the other, otherwise 0");
+        Checks.sentence("10 plus 3 times a plan plus another one: 1 if the one can stand in for the other,"
+                + " otherwise 0");
         MirroredTalks x = Checks.withPlans("0!a1;", "0!a1b1;", "0!a1b1c1;");
         for (int what = 10; what < 19; what++) {
             int one = (what - 10) / 3;

@@ -518,6 +518,13 @@ public final class TalkSentenceTests {
         for (int what : new int[] {0, 1, 2, 3, 5, 6}) {
             due("the others are told, " + what, x.talk(0, 0, what) >= 0 ? 1 : 0, 1);
         }
+        // Nothing stays of a talk that was asked for before.
+        MirroredTalks y = Checks.withPlans("0!a1;", "0?a1;", "0?;");
+        due("an end", y.talk(0, 1, 4), 1);
+        due("none", y.talk(2, 2, 4), Checks.NOT_FOUND);
+        due("no ends", y.talk(2, 2, 2), 0);
+        due("one that is stuck", y.talk(2, 2, 1), 1);
+        due("one state", y.talk(2, 2, 5), 1);
     }
 
     private static void statesComeTo() {

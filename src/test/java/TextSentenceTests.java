@@ -1,8 +1,10 @@
 /** The sentences on texts, and promises 16 to 19: each boundary case that they name. */
 public final class TextSentenceTests {
     /** A plan of 80 characters, and one of 79. */
-    private static final String FULL = "0!a1b2c3d4;1?a1b2c3d4;2!a1b2c3d4;3?a1b2c3d4;4!a1b2c3d4;5?a1b2c3d4;6!a1b2;7?a1b2;";
-    private static final String ALL_BUT_ONE = "0!a1b2c3d4e5f6;1?a1b2c3d4e5f6;2!a1b2c3d4e5;3?a1b2c3d4;4!a1b2c3d4;5?a1b2;6!a1b2;";
+    private static final String FULL =
+            "0!a1b2c3d4;1?a1b2c3d4;2!a1b2c3d4;3?a1b2c3d4;4!a1b2c3d4;5?a1b2c3d4;6!a1b2;7?a1b2;";
+    private static final String ALL_BUT_ONE =
+            "0!a1b2c3d4e5f6;1?a1b2c3d4e5f6;2!a1b2c3d4e5;3?a1b2c3d4;4!a1b2c3d4;5?a1b2;6!a1b2;";
 
     private TextSentenceTests() {
     }
