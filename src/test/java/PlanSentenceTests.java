@@ -430,6 +430,28 @@ public final class PlanSentenceTests {
         due("it is of the plan itself", x.stateOf(1, 7, 2), 0);
         x.copy(0, 2);
         due("of the last plan", x.stateOf(2, 7, 2), 0);
+        for (int high = 1; high < 8; high++) {
+            for (int low = 0; low < high; low++) {
+                onlyTwoAlike(low, high);
+            }
+        }
+    }
+
+    /** Each state has arrows by other words, but for two of them. */
+    private static void onlyTwoAlike(int low, int high) {
+        MirroredTalks x = new MirroredTalks();
+        for (int state = 0; state < 8; state++) {
+            x.kind(0, state, 1);
+            int words = state == high ? low : state;
+            for (int word = 0; word < 3; word++) {
+                if ((words >> word & 1) == 1) {
+                    x.arrow(0, state, 3 + word, 7);
+                }
+            }
+        }
+        for (int state = 0; state < 8; state++) {
+            due("of " + state + ", " + low + " like " + high, x.stateOf(0, state, 2), state == high ? low : state);
+        }
     }
 
     private static void statesOneCanComeTo() {
